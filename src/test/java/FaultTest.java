@@ -86,6 +86,15 @@ public final class FaultTest {
         CHECKS.feedAll(y, 300, 300);
         CHECKS.due("another fault is told instead", y.compile(), 4);
 
+        SquareCode w = new SquareCode(7, 2);
+        CHECKS.feedAll(w, 0, 863, 863, 863, 815, 600, 600, 801, 801, 800);
+        CHECKS.due("POWER 0 makes one, POWER 1 none", w.compile(), 0);
+        CHECKS.due("40 instructions", w.codeSize(), 40);
+
+        SquareCode v = new SquareCode(7, 2);
+        CHECKS.feedAll(v, 0, 863, 863, 863, 815, 600, 600, 801, 800, 800);
+        CHECKS.due("41 instructions", v.compile(), 6);
+
         SquareCode z = new SquareCode(7, 2);
         CHECKS.feedAll(z, 0);
         for (int k = 1; k < 24; k++) {

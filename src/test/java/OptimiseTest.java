@@ -13,6 +13,7 @@ public final class OptimiseTest {
         sameValues();
         orderOfTheNewCode();
         twice();
+        nothingIsKeptFromBefore();
         rewinds();
         CHECKS.finish();
     }
@@ -88,6 +89,7 @@ public final class OptimiseTest {
         becomes("TURN NOUGHT", words(200, 600), 20000);
         becomes("TURN v", words(1, 600), 1, 60000);
         becomes("TURN TURN v", words(1, 600, 600), 1);
+        becomes("TURN TURN of the later", words(0, 1, 600, 600, 400), 0, 1, 40001);
         becomes("TURN three times", words(1, 600, 600, 600), 1, 60000);
         becomes("TURN of a sum stays", words(0, 1, 300, 600), 0, 1, 30001, 60200);
         becomes("TURN v * v", words(1, 600, 1, 500), 1, 60000, 50100);
@@ -163,6 +165,19 @@ public final class OptimiseTest {
         CHECKS.codeIs("twice", x, 2, 70005);
         CHECKS.due("the source is as it was", x.compile(), 0);
         CHECKS.due("the source is as it was", x.codeSize(), 12);
+    }
+
+    private static void nothingIsKeptFromBefore() {
+        SquareCode x = new SquareCode(13, 2);
+        CHECKS.feedAll(x, 0, 1, 300);
+        CHECKS.due("compile", x.compile(), 0);
+        CHECKS.due("optimise", x.optimise(), 0);
+        CHECKS.codeIs("0 first", x, 0, 1, 30001);
+        x.reset();
+        CHECKS.feedAll(x, 1, 0, 300);
+        CHECKS.due("compile", x.compile(), 0);
+        CHECKS.due("optimise", x.optimise(), 0);
+        CHECKS.codeIs("1 first", x, 1, 0, 30001);
     }
 
     private static void rewinds() {

@@ -8,6 +8,7 @@ public final class RunTest {
         refusedWithoutCode();
         fuel();
         everyOperation();
+        allFortyRegisters();
         placesOfOut();
         CHECKS.finish();
     }
@@ -79,6 +80,32 @@ public final class RunTest {
         makes("POWER 2", new int[] {0, 802}, new int[][] {{7, 10}, {4, 0}});
         makes("POWER 3", new int[] {0, 803}, new int[][] {{4, 10}, {4, 8}});
         makes("POWER 0", new int[] {0, 800}, new int[][] {{1, 0}, {0, 1}});
+    }
+
+    /** 37 instructions and three more: the last register must not reach into an input. */
+    private static void allFortyRegisters() {
+        int[][] endings = {{1, 600, 300}, {1, 600, 400}, {1, 600, 500},
+            {600, 702, 600}, {600, 600, 702}, {600, 600, 800}};
+        int[][] wants = {{3, 5}, {4, 5}, {9, 7}, {7, 10}, {7, 10}, {1, 0}};
+        for (int k = 0; k < endings.length; k++) {
+            SquareCode x = new SquareCode(11, 2);
+            CHECKS.setAll(x, 0, A);
+            CHECKS.setAll(x, 1, B);
+            CHECKS.feedAll(x, 0, 863, 863, 863, 815);
+            CHECKS.feedAll(x, endings[k]);
+            CHECKS.due("compile", x.compile(), 0);
+            CHECKS.due("size", x.codeSize(), 40);
+            for (int round = 0; round < 2; round++) {
+                CHECKS.due("one too few", x.run(39), 8);
+                CHECKS.due("just enough", x.run(1), 0);
+                CHECKS.due("ending " + k, x.out(0, 0), wants[k][0]);
+                CHECKS.due("ending " + k, x.out(0, 1), wants[k][1]);
+                CHECKS.due("evalDirect", x.evalDirect(), 0);
+                CHECKS.due("ending " + k, x.outDirect(0, 0), wants[k][0]);
+                CHECKS.due("ending " + k, x.outDirect(0, 1), wants[k][1]);
+                CHECKS.due("setInput", x.setInput(3, 0, 0, 0), 0);
+            }
+        }
     }
 
     private static void placesOfOut() {
