@@ -8,8 +8,11 @@ public final class EvalDirectTest {
         everyOperation();
         deepSource();
         withAndWithoutCode();
+        withoutCodeThereIsNoLimitOfIt();
+        noneWorkedOut();
         theLastThatAnsweredNought();
-        placesOfOutDirect();
+        eachFaultKeepsTheLast();
+        outDirectIfNoSuchPlace();
         CHECKS.finish();
     }
 
@@ -76,36 +79,71 @@ public final class EvalDirectTest {
         CHECKS.due("outDirect is old", x.outDirect(0, 0), 4);
     }
 
-    private static void theLastThatAnsweredNought() {
+    /** "without code: 0, or the fault 3, 4 or 5", never 6 */
+    private static void withoutCodeThereIsNoLimitOfIt() {
+        SquareCode x = new SquareCode(97, 1);
+        CHECKS.due("setInput", x.setInput(0, 0, 0, 5), 0);
+        CHECKS.feedAll(x, 0, 899, 899, 899, 899, 899);
+        CHECKS.due("compile", x.compile(), 6);
+        CHECKS.due("evalDirect", x.evalDirect(), 0);
+        CHECKS.due("5 to the 99 to the 5, which is 5 to the 51", x.outDirect(0, 0), 69);
+    }
+
+    /** "-1 if there was none since the constructor or reset" */
+    private static void noneWorkedOut() {
         SquareCode x = new SquareCode(7, 1);
-        CHECKS.due("outDirect", x.outDirect(0, 0), -1);
+        CHECKS.due("none since the constructor", x.outDirect(0, 0), -1);
         CHECKS.due("evalDirect", x.evalDirect(), 5);
         CHECKS.due("none that answered 0", x.outDirect(0, 0), -1);
         CHECKS.feedAll(x, 100);
-        CHECKS.due("none since the word", x.outDirect(0, 0), -1);
+        CHECKS.due("compile", x.compile(), 0);
+        CHECKS.due("run", x.run(1), 0);
+        CHECKS.due("run is not evalDirect", x.outDirect(0, 0), -1);
+        CHECKS.due("evalDirect", x.evalDirect(), 0);
+        CHECKS.due("outDirect", x.outDirect(0, 0), 1);
+        x.reset();
+        CHECKS.due("none since reset", x.outDirect(0, 0), -1);
+        CHECKS.feedAll(x, 100, 900);
+        CHECKS.due("evalDirect", x.evalDirect(), 3);
+        CHECKS.due("none that answered 0 since reset", x.outDirect(0, 0), -1);
+    }
+
+    /** "what the last evalDirect that answered 0 worked out" */
+    private static void theLastThatAnsweredNought() {
+        SquareCode x = new SquareCode(7, 1);
+        CHECKS.feedAll(x, 100);
         CHECKS.due("evalDirect", x.evalDirect(), 0);
         CHECKS.feedAll(x, 702);
         CHECKS.due("none since the word", x.outDirect(0, 0), 1);
         CHECKS.due("evalDirect", x.evalDirect(), 0);
         CHECKS.due("the newer one", x.outDirect(0, 0), 2);
-        CHECKS.feedAll(x, 300);
-        CHECKS.due("evalDirect", x.evalDirect(), 4);
-        CHECKS.due("the last that answered 0", x.outDirect(0, 0), 2);
-        x.reset();
-        CHECKS.due("none since reset", x.outDirect(0, 0), -1);
-        CHECKS.feedAll(x, 100, 900);
-        CHECKS.due("evalDirect", x.evalDirect(), 3);
-        CHECKS.due("none since reset", x.outDirect(0, 0), -1);
+        CHECKS.due("compile", x.compile(), 0);
+        CHECKS.due("optimise", x.optimise(), 0);
+        CHECKS.due("it stays", x.outDirect(0, 0), 2);
     }
 
-    private static void placesOfOutDirect() {
+    private static void eachFaultKeepsTheLast() {
+        int[] words = {900, 300, 100};
+        for (int k = 0; k < 3; k++) {
+            SquareCode x = new SquareCode(7, 1);
+            CHECKS.feedAll(x, 100, 703);
+            CHECKS.due("evalDirect", x.evalDirect(), 0);
+            CHECKS.feedAll(x, 702, words[k]);
+            CHECKS.due("the fault", x.evalDirect(), 3 + k);
+            CHECKS.due("the last that answered 0", x.outDirect(0, 0), 3);
+        }
+    }
+
+    /** "-1 if .. there is no such place" */
+    private static void outDirectIfNoSuchPlace() {
         for (int n = 1; n <= 4; n++) {
             SquareCode x = new SquareCode(97, n);
             CHECKS.feedAll(x, 100, 796);
             CHECKS.due("evalDirect", x.evalDirect(), 0);
-            for (int edge : new int[] {-1, n, Integer.MIN_VALUE, Integer.MAX_VALUE}) {
+            for (int edge : new int[] {-1, -n, n, n + 1, Integer.MIN_VALUE, Integer.MAX_VALUE}) {
                 CHECKS.due("row " + edge, x.outDirect(edge, 0), -1);
                 CHECKS.due("column " + edge, x.outDirect(0, edge), -1);
+                CHECKS.due("both " + edge, x.outDirect(edge, edge), -1);
             }
             CHECKS.due("the last place", x.outDirect(n - 1, n - 1), 96);
         }

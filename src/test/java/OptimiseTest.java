@@ -10,6 +10,8 @@ public final class OptimiseTest {
         turn();
         scale();
         scaleOfScale();
+        whichHoldsFirst();
+        valuesNotNumbersAreLookedAt();
         sameValues();
         orderOfTheNewCode();
         twice();
@@ -37,6 +39,7 @@ public final class OptimiseTest {
         return words;
     }
 
+    /** "7, refused, if there is none" */
     private static void refusedWithoutCode() {
         SquareCode x = new SquareCode(7, 2);
         CHECKS.due("no words", x.optimise(), 7);
@@ -50,6 +53,7 @@ public final class OptimiseTest {
         CHECKS.due("reset", x.optimise(), 7);
     }
 
+    /** "ADD: v if w is NOUGHT's, w if v is; else the new value ADD of both, .." */
     private static void add() {
         becomes("v + NOUGHT", words(1, 200, 300), 1);
         becomes("NOUGHT + w", words(200, 1, 300), 1);
@@ -61,6 +65,7 @@ public final class OptimiseTest {
         becomes("v + ONE", words(1, 100, 300), 1, 10000, 30001);
     }
 
+    /** "SUB: v if w is NOUGHT's; NOUGHT's if v is w; else SUB v w." */
     private static void sub() {
         becomes("v - NOUGHT", words(1, 200, 400), 1);
         becomes("v - v", words(1, 1, 400), 20000);
@@ -71,6 +76,7 @@ public final class OptimiseTest {
                 0, 1, 40001, 40100, 50203);
     }
 
+    /** "MUL: NOUGHT's, if v or w is; v if w is ONE's, w if v is; else MUL v w." */
     private static void mul() {
         becomes("NOUGHT * w", words(200, 1, 500), 20000);
         becomes("v * NOUGHT", words(1, 200, 500), 20000);
@@ -84,6 +90,7 @@ public final class OptimiseTest {
                 0, 1, 50001, 50100, 30203);
     }
 
+    /** "TURN: v, if that is ONE's or NOUGHT's; the value of which v is the TURN; else TURN v." */
     private static void turn() {
         becomes("TURN ONE", words(100, 600), 10000);
         becomes("TURN NOUGHT", words(200, 600), 20000);
@@ -95,6 +102,7 @@ public final class OptimiseTest {
         becomes("TURN v * v", words(1, 600, 1, 500), 1, 60000, 50100);
     }
 
+    /** "SCALE: with x mod P: NOUGHT's, if x is 0, or v is NOUGHT's; v, if x is 1; .." */
     private static void scale() {
         becomes("SCALE 0", words(1, 700), 20000);
         becomes("SCALE 13", words(1, 713), 20000);
@@ -111,6 +119,7 @@ public final class OptimiseTest {
         becomesModulo(2, "SCALE 98 modulo 2", words(1, 798), 20000);
     }
 
+    /** "if v is SCALE y of u: as SCALE of y * x mod P of u; else SCALE x v" */
     private static void scaleOfScale() {
         becomes("5 * 3", words(1, 703, 705), 1, 70002);
         becomes("5 * 8 is 1", words(1, 708, 705), 1);
@@ -125,6 +134,34 @@ public final class OptimiseTest {
         becomesModulo(12, "3 * 6 modulo 12", words(1, 703, 706), 1, 70006);
     }
 
+    /** "by the first that holds": sources in which two rules of an operation hold at once. */
+    private static void whichHoldsFirst() {
+        becomes("ADD: both are NOUGHT's", words(1, 1, 400, 200, 300, 2, 400),
+                20000, 2, 40001);
+        becomes("SUB: w is NOUGHT's and v is w", words(200, 200, 400, 1, 400), 20000, 1, 40001);
+        becomes("MUL: v is NOUGHT's, w is ONE's", words(200, 100, 500, 1, 400),
+                20000, 1, 40001);
+        becomes("MUL: v is ONE's, w is NOUGHT's", words(100, 200, 500, 1, 400),
+                20000, 1, 40001);
+        becomes("MUL: both are NOUGHT's", words(200, 802), 20000);
+        becomes("MUL: both are ONE's", words(100, 802, 1, 300), 10000, 1, 30001);
+        becomes("SCALE: x is 0, v is NOUGHT's", words(200, 700, 1, 400), 20000, 1, 40001);
+        becomes("SCALE: x is 1, v is NOUGHT's", words(200, 701, 1, 400), 20000, 1, 40001);
+        becomes("SCALE: x is 0, v is a SCALE", words(1, 705, 713), 20000);
+        becomes("SCALE: x is 1, v is a SCALE", words(1, 705, 714), 1, 70005);
+    }
+
+    /** An input of 0 everywhere is not NOUGHT's, nor is a product that comes to ONE ONE's. */
+    private static void valuesNotNumbersAreLookedAt() {
+        becomes("an input at 0 added", words(1, 0, 300), 1, 0, 30001);
+        becomes("an input at 0 multiplied", words(1, 0, 500), 1, 0, 50001);
+        becomes("like inputs subtracted", words(1, 0, 400), 1, 0, 40001);
+        becomes("an input at 0 turned", words(1, 600), 1, 60000);
+        becomes("ONE less ONE scaled by 2", words(100, 702, 100, 400, 1, 500),
+                10000, 70002, 40100, 1, 50203);
+    }
+
+    /** "A new value that is like one that is there already .. is that one." */
     private static void sameValues() {
         becomes("PUSH twice", words(2, 2, 500), 2, 50000);
         becomes("two inputs", words(2, 3, 500), 2, 3, 50001);
@@ -136,6 +173,7 @@ public final class OptimiseTest {
                 words(0, 1, 300, 802, 1, 0, 300, 802, 400), 20000);
     }
 
+    /** "in the order in which the values came" */
     private static void orderOfTheNewCode() {
         becomes("what is not used goes", words(0, 1, 500, 200, 500, 2, 300), 2);
         becomes("one value among unused ones", words(3, 0, 1, 500, 200, 500, 300, 600),

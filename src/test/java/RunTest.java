@@ -6,51 +6,107 @@ public final class RunTest {
 
     public static void main(String[] args) {
         refusedWithoutCode();
-        fuel();
+        oneForEachPieceOfFuel();
+        fuelBelowNought();
+        tooLittleFuel();
+        justEnoughFuel();
+        moreThanEnoughFuel();
+        allDoneAlready();
         everyOperation();
         allFortyRegisters();
-        placesOfOut();
+        allFortyRegistersOfSideOne();
+        outIfNotAllAreDone();
+        outIfNoSuchPlace();
         CHECKS.finish();
     }
 
+    /** "7, refused, if there is no code" */
     private static void refusedWithoutCode() {
         SquareCode x = new SquareCode(11, 2);
-        CHECKS.due("run", x.run(1), 7);
+        CHECKS.due("no words", x.run(1), 7);
         CHECKS.feedAll(x, 0);
-        CHECKS.due("run", x.run(0), 7);
-        CHECKS.due("run", x.run(-1), 7);
+        for (int fuel : new int[] {1, 0, -1, 40, Integer.MAX_VALUE, Integer.MIN_VALUE}) {
+            CHECKS.due("not compiled, fuel " + fuel, x.run(fuel), 7);
+        }
+        CHECKS.due("evalDirect", x.evalDirect(), 0);
+        CHECKS.due("only worked out directly", x.run(1), 7);
         CHECKS.due("out", x.out(0, 0), -1);
         CHECKS.due("compile", x.compile(), 0);
         CHECKS.due("run", x.run(1), 0);
         CHECKS.due("out", x.out(0, 0), 0);
+        x.reset();
+        CHECKS.due("reset", x.run(1), 7);
     }
 
-    private static void fuel() {
+    /** Four instructions, 2 in the end. */
+    private static SquareCode ofFour() {
         SquareCode x = new SquareCode(11, 1);
         CHECKS.feedAll(x, 100, 702, 703, 704);
         CHECKS.due("compile", x.compile(), 0);
-        CHECKS.due("none", x.run(0), 8);
-        CHECKS.due("below 0", x.run(-1), 8);
-        CHECKS.due("far below 0", x.run(Integer.MIN_VALUE), 8);
+        return x;
+    }
+
+    /** "one for each piece of fuel", "instructions further" */
+    private static void oneForEachPieceOfFuel() {
+        SquareCode x = ofFour();
         CHECKS.due("one", x.run(1), 8);
-        CHECKS.due("two", x.run(2), 8);
+        CHECKS.due("three", x.run(2), 8);
         CHECKS.due("not yet", x.out(0, 0), -1);
-        CHECKS.due("below 0 takes none back", x.run(-3), 8);
         CHECKS.due("the last", x.run(1), 0);
         CHECKS.due("out", x.out(0, 0), 2);
-        CHECKS.due("no more to do", x.run(0), 0);
-        CHECKS.due("no more to do", x.run(-5), 0);
-        CHECKS.due("no more to do", x.run(7), 0);
-        CHECKS.due("out stays", x.out(0, 0), 2);
-        CHECKS.due("setInput", x.setInput(0, 0, 0, 1), 0);
-        CHECKS.due("all at once", x.run(Integer.MAX_VALUE), 0);
-        CHECKS.due("setInput", x.setInput(0, 0, 0, 1), 0);
-        CHECKS.due("one", x.run(1), 8);
-        CHECKS.due("the rest", x.run(Integer.MAX_VALUE), 0);
-        CHECKS.due("setInput", x.setInput(0, 0, 0, 1), 0);
-        CHECKS.due("one too few", x.run(3), 8);
-        CHECKS.due("setInput", x.setInput(0, 0, 0, 1), 0);
-        CHECKS.due("just enough", x.run(4), 0);
+    }
+
+    /** "(fuel below 0 is none)" */
+    private static void fuelBelowNought() {
+        SquareCode x = ofFour();
+        for (int fuel : new int[] {0, -1, -4, Integer.MIN_VALUE}) {
+            CHECKS.due("none of four, fuel " + fuel, x.run(fuel), 8);
+        }
+        CHECKS.due("three", x.run(3), 8);
+        for (int fuel : new int[] {0, -1, -3, -4, Integer.MIN_VALUE}) {
+            CHECKS.due("none taken back, fuel " + fuel, x.run(fuel), 8);
+        }
+        CHECKS.due("the last", x.run(1), 0);
+        CHECKS.due("out", x.out(0, 0), 2);
+    }
+
+    /** "8 if not" */
+    private static void tooLittleFuel() {
+        for (int fuel = 0; fuel < 4; fuel++) {
+            SquareCode x = ofFour();
+            CHECKS.due("fuel " + fuel, x.run(fuel), 8);
+            CHECKS.due("not yet", x.out(0, 0), -1);
+            CHECKS.due("the others", x.run(4 - fuel), 0);
+        }
+    }
+
+    /** "0 if all are done then" */
+    private static void justEnoughFuel() {
+        SquareCode x = ofFour();
+        CHECKS.due("all four", x.run(4), 0);
+        CHECKS.due("out", x.out(0, 0), 2);
+    }
+
+    /** "Runs at most fuel instructions further" */
+    private static void moreThanEnoughFuel() {
+        for (int fuel : new int[] {5, 40, 41, 1000, Integer.MAX_VALUE}) {
+            SquareCode x = ofFour();
+            CHECKS.due("fuel " + fuel, x.run(fuel), 0);
+            CHECKS.due("out", x.out(0, 0), 2);
+            SquareCode y = ofFour();
+            CHECKS.due("one", y.run(1), 8);
+            CHECKS.due("the rest, fuel " + fuel, y.run(fuel), 0);
+            CHECKS.due("out", y.out(0, 0), 2);
+        }
+    }
+
+    private static void allDoneAlready() {
+        SquareCode x = ofFour();
+        CHECKS.due("all", x.run(4), 0);
+        for (int fuel : new int[] {0, -5, 1, 7, Integer.MIN_VALUE, Integer.MAX_VALUE}) {
+            CHECKS.due("no more to do, fuel " + fuel, x.run(fuel), 0);
+            CHECKS.due("out stays", x.out(0, 0), 2);
+        }
     }
 
     private static void makes(String what, int[] words, int[][] want) {
@@ -70,6 +126,10 @@ public final class RunTest {
         makes("PUSH", new int[] {1}, B);
         makes("ONE", new int[] {100}, new int[][] {{1, 0}, {0, 1}});
         makes("NOUGHT", new int[] {200}, new int[][] {{0, 0}, {0, 0}});
+        makes("NOUGHT later", new int[] {0, 200, 400}, A);
+        makes("NOUGHT later", new int[] {0, 1, 200, 500, 300}, A);
+        makes("ONE later", new int[] {0, 100, 500}, A);
+        makes("ONE later", new int[] {0, 100, 300}, new int[][] {{2, 2}, {3, 5}});
         makes("ADD", new int[] {0, 1, 300}, new int[][] {{6, 8}, {3, 1}});
         makes("SUB", new int[] {0, 1, 400}, new int[][] {{7, 7}, {3, 7}});
         makes("MUL", new int[] {0, 1, 500}, new int[][] {{5, 0}, {4, 6}});
@@ -108,15 +168,60 @@ public final class RunTest {
         }
     }
 
-    private static void placesOfOut() {
+    /** Small matrices lie closest to what comes behind the registers. */
+    private static void allFortyRegistersOfSideOne() {
+        int[][] endings = {{600, 100, 300}, {600, 200, 300}, {600, 3, 300}, {100, 600, 300},
+            {100, 800, 300}, {200, 800, 300}, {3, 702, 300}};
+        int[] wants = {0, 10, 4, 0, 0, 0, 9};
+        for (int k = 0; k < endings.length; k++) {
+            SquareCode x = new SquareCode(11, 1);
+            CHECKS.setAll(x, 0, new int[][] {{10}});
+            CHECKS.setAll(x, 3, new int[][] {{5}});
+            CHECKS.feedAll(x, 0, 863, 863, 863, 815);
+            CHECKS.feedAll(x, endings[k]);
+            CHECKS.due("compile", x.compile(), 0);
+            CHECKS.due("size", x.codeSize(), 40);
+            for (int round = 0; round < 3; round++) {
+                CHECKS.due("setInput", x.setInput(1, 0, 0, round), 0);
+                CHECKS.due("run", x.run(40), 0);
+                CHECKS.due("ending " + k, x.out(0, 0), wants[k]);
+                CHECKS.due("evalDirect", x.evalDirect(), 0);
+                CHECKS.due("ending " + k, x.outDirect(0, 0), wants[k]);
+            }
+        }
+    }
+
+    /** "if all instructions are done; else -1" */
+    private static void outIfNotAllAreDone() {
+        SquareCode x = new SquareCode(11, 1);
+        CHECKS.due("no words", x.out(0, 0), -1);
+        CHECKS.feedAll(x, 100, 702);
+        CHECKS.due("no code", x.out(0, 0), -1);
+        CHECKS.due("compile", x.compile(), 0);
+        CHECKS.due("none is done", x.out(0, 0), -1);
+        CHECKS.due("run", x.run(1), 8);
+        CHECKS.due("one of two is done", x.out(0, 0), -1);
+        CHECKS.due("run", x.run(1), 0);
+        CHECKS.due("both are done", x.out(0, 0), 2);
+        CHECKS.due("optimise", x.optimise(), 0);
+        CHECKS.due("none is done again", x.out(0, 0), -1);
+        CHECKS.due("run", x.run(2), 0);
+        CHECKS.due("both are done again", x.out(0, 0), 2);
+        x.reset();
+        CHECKS.due("reset", x.out(0, 0), -1);
+    }
+
+    /** "-1, also if there is no such place" */
+    private static void outIfNoSuchPlace() {
         for (int n = 1; n <= 4; n++) {
             SquareCode x = new SquareCode(97, n);
             CHECKS.feedAll(x, 100, 795);
             CHECKS.due("compile", x.compile(), 0);
             CHECKS.due("run", x.run(2), 0);
-            for (int edge : new int[] {-1, n, Integer.MIN_VALUE, Integer.MAX_VALUE}) {
+            for (int edge : new int[] {-1, -n, n, n + 1, Integer.MIN_VALUE, Integer.MAX_VALUE}) {
                 CHECKS.due("row " + edge, x.out(edge, 0), -1);
                 CHECKS.due("column " + edge, x.out(0, edge), -1);
+                CHECKS.due("both " + edge, x.out(edge, edge), -1);
             }
             CHECKS.due("the last place", x.out(n - 1, n - 1), 95);
             CHECKS.due("the corner", x.out(0, n - 1), n == 1 ? 95 : 0);
