@@ -13,7 +13,9 @@ public final class OptimiseTest {
         whichHoldsFirst();
         valuesNotNumbersAreLookedAt();
         sameValues();
+        onlyWhatIsNeeded();
         orderOfTheNewCode();
+        noughtWhereARuleNamesIt();
         twice();
         nothingIsKeptFromBefore();
         rewinds();
@@ -173,24 +175,38 @@ public final class OptimiseTest {
                 words(0, 1, 300, 802, 1, 0, 300, 802, 400), 20000);
     }
 
-    /** "in the order in which the values came" */
-    private static void orderOfTheNewCode() {
+    /** "an instruction for each value that the result's value is made of, directly or not" */
+    private static void onlyWhatIsNeeded() {
         becomes("what is not used goes", words(0, 1, 500, 200, 500, 2, 300), 2);
         becomes("one value among unused ones", words(3, 0, 1, 500, 200, 500, 300, 600),
                 3, 60000);
-        becomes("NOUGHT comes where v - v stands", words(0, 0, 400, 1, 400), 20000, 1, 40001);
-        becomes("NOUGHT comes after what stood before",
-                words(1, 0, 0, 400, 1, 400, 500), 1, 20000, 40100, 50002);
-        becomes("NOUGHT comes where SCALE 0 stands",
-                words(1, 0, 700, 1, 400, 500), 1, 20000, 40100, 50002);
+        becomes("POWER 0 drops the matrix", words(0, 803, 800, 1, 300), 10000, 1, 30001);
+        becomes("what is used through others stays", words(0, 600, 703, 1, 500, 2, 400),
+                0, 60000, 70103, 1, 50203, 2, 40405);
+    }
+
+    /** "in the order in which the values came" */
+    private static void orderOfTheNewCode() {
+        becomes("the first of like values counts", words(0, 1, 300, 1, 0, 400, 500),
+                0, 1, 30001, 40100, 50203);
         becomes("a sum does not bring NOUGHT before itself",
                 words(0, 1, 300, 200, 0, 1, 300, 400, 500),
                 0, 1, 30001, 20000, 40302, 50204);
         becomes("a product does not bring ONE before itself",
                 words(0, 1, 500, 100, 300, 600), 0, 1, 50001, 10000, 30203, 60400);
+    }
+
+    /** "NOUGHT's .. value come as such where a rule names them and no instruction has them yet" */
+    private static void noughtWhereARuleNamesIt() {
+        becomes("NOUGHT comes where v - v stands", words(0, 0, 400, 1, 400), 20000, 1, 40001);
+        becomes("NOUGHT comes after what stood before",
+                words(1, 0, 0, 400, 1, 400, 500), 1, 20000, 40100, 50002);
+        becomes("NOUGHT comes where SCALE 0 stands",
+                words(1, 0, 700, 1, 400, 500), 1, 20000, 40100, 50002);
         becomes("the NOUGHT that a rule brought is the word's too",
                 words(1, 1, 400, 2, 400, 200, 3, 400, 500), 20000, 2, 40001, 3, 40003, 50204);
-        becomes("POWER 0 drops the matrix", words(0, 803, 800, 1, 300), 10000, 1, 30001);
+        becomes("the NOUGHT that a word brought is the rule's too",
+                words(200, 2, 400, 1, 1, 400, 3, 400, 500), 20000, 2, 40001, 3, 40003, 50204);
     }
 
     private static void twice() {
